@@ -10,6 +10,7 @@ public final class PointsTest {
         point();
         split();
         splitParts();
+        splitForgets();
         read();
         readFull();
         died();
@@ -27,8 +28,10 @@ public final class PointsTest {
         guessesOfConstants();
         sums();
         sumsFractions();
+        sumsLeadsMixed();
         sumsOfSides();
         sumsLargest();
+        sumsOfMany();
         check.end();
     }
 
@@ -113,6 +116,30 @@ public final class PointsTest {
         check.due("3: parted anew, others", x.number(0, 2, 3, 1, 0), 10);
         x.point(1);
         check.due("3: another point has none", x.tried(1, 1), 0);
+    }
+
+    /** What a side was found to be ahead of a new split says nothing of the side behind it. */
+    private static void splitForgets() {
+        RunLaws x = new RunLaws();
+        x.point(2);
+        x.read(0, 10, 5, 0, 0);
+        x.read(0, 4, 8, 0, 0);
+        x.read(0, -1, -2, 0, 0);
+        x.read(0, 5, -6, 0, 0);
+        check.due("3: all on side 2", x.split(0, 0, 30), 0);
+        check.due("3: falls there", x.holds(0, 2, 9, 0, 0), 0);
+        check.due("3: no rest there", x.holds(0, 2, 4, 0, 0), 0);
+        check.due("3: no order there", x.holds(0, 2, 7, 1, 0), 0);
+        check.due("3: two on side 2", x.split(0, 1, 0), 2);
+        check.due("3: rises now", x.holds(0, 2, 9, 0, 0), 1);
+        check.due("3: a rest now", x.number(0, 2, 4, 0, 0), 6);
+        check.due("3: an order now", x.holds(0, 2, 6, 1, 0), 1);
+        check.due("3: few now", x.number(0, 2, 1, 1, 0), 2);
+        check.due("3: the lesser of them", x.number(0, 2, 1, 1, 2), -6);
+        check.due("3: one on side 1", x.split(0, 1, 8), 1);
+        told(x, 0, 1, 0, 10);
+        check.due("3: all on side 1", x.split(0, 1, -30), 4);
+        check.due("3: none on side 2", x.sums(0, 2), RunLaws.NONE);
     }
 
     private static void read() {
@@ -495,6 +522,26 @@ public final class PointsTest {
         basis(x, 3, 0, new long[][] {{11, 8, -7, 1}});
     }
 
+    /** Readings whose first numbers come in behind, ahead of and between those that are there. */
+    private static void sumsLeadsMixed() {
+        RunLaws x = new RunLaws();
+        x.point(3);
+        x.read(0, 0, 0, 2, 0);
+        basis(x, 0, 0, new long[][] {{1, 0, 0, 0}, {0, 1, 0, 0}, {0, 0, -1, 2}});
+        x.read(0, 5, 0, 2, 0);
+        basis(x, 0, 0, new long[][] {{0, 1, 0, 0}, {0, 0, -1, 2}});
+        x.read(0, 5, 3, 2, 0);
+        basis(x, 0, 0, new long[][] {{0, 0, -1, 2}});
+        x.point(3);
+        x.read(1, 0, 0, 2, 0);
+        x.read(1, 0, 3, 4, 0);
+        basis(x, 1, 0, new long[][] {{1, 0, 0, 0}, {0, 2, -3, 6}});
+        x.read(1, -5, 3, 4, 0);
+        basis(x, 1, 0, new long[][] {{0, 2, -3, 6}});
+        x.read(1, -5, 3, 5, 0);
+        basis(x, 1, 0, new long[][] {});
+    }
+
     private static void sumsOfSides() {
         RunLaws x = new RunLaws();
         x.point(2);
@@ -549,6 +596,27 @@ public final class PointsTest {
         }
         check.due("13: no common divisor", common, 1);
         check.isTrue("13: b above 0", x.sum(0, 0, 0, 4) > 0);
+    }
+
+    /** Forty readings, far apart, of which -7 x0 - 11 x1 - 13 x2 + 17 x3 + 5 = 0 is true. */
+    private static void sumsOfMany() {
+        RunLaws x = new RunLaws();
+        x.point(4);
+        int met = 0;
+        for (int n = 0; n < 61 * 61 * 61 && x.tried(0, 0) < 40; n++) {
+            int a = n % 61 - 30;
+            int b = n / 61 * 29 % 61 - 30;
+            int c = n / 61 / 61 * 43 % 61 - 30;
+            int rest = 7 * a + 11 * b + 13 * c - 5;
+            if (rest % 17 == 0 && Math.abs(rest / 17) <= 30) {
+                met++;
+                if (met % 97 == 1) {
+                    x.read(0, a, b, c, rest / 17);
+                }
+            }
+        }
+        check.due("4: forty", x.tried(0, 0), 40);
+        basis(x, 0, 0, new long[][] {{-7, -11, -13, 17, 5}});
     }
 
     private static long divisor(long a, long b) {
