@@ -796,7 +796,7 @@ public final class RunLaws {
             }
         }
 
-        /** Puts the fresh row where its lead belongs, with the lead above 0. */
+        /** Puts the fresh row where its lead belongs, with the lead above 0; it has no common divisor by now. */
         private int insertFresh(int lead) {
             long[] spare = rows[rank];
             int at = rank;
@@ -808,7 +808,6 @@ public final class RunLaws {
             for (int c = 0; c < places; c++) {
                 spare[c] = turned ? -fresh[c] : fresh[c];
             }
-            shorten(spare);
             rows[at] = spare;
             leads[at] = lead;
             rank++;

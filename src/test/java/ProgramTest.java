@@ -17,6 +17,7 @@ public final class ProgramTest {
         searchOrder();
         searchLost();
         searchPastLost();
+        searchSameNumbers();
         searchGuesses();
         searchFirstGuess();
         searchLatest();
@@ -304,6 +305,24 @@ public final class ProgramTest {
         check.due("20: its third", x.broke(12), 4);
         x.makes(4, 0, 1, 0, 0, 0, 31);
         check.due("19: what is lost breaks none", x.search(3), RunLaws.NONE);
+    }
+
+    /** The same numbers at other points, and with more acts to go, are other states: their rows are not alike. */
+    private static void searchSameNumbers() {
+        RunLaws x = new RunLaws();
+        for (int p = 0; p < 4; p++) {
+            x.point(1);
+        }
+        int[][] ways = {{0, 0}, {0, 1}, {1, 1}, {1, 2}, {2, 3}};
+        for (int a = 0; a < ways.length; a++) {
+            x.act(ways[a][0], ways[a][1]);
+            x.makes(a, 0, 1, 0, 0, 0, 0);
+        }
+        x.start(0, 0, 0, 0, 0);
+        x.read(3, 5, 0, 0, 0);
+        // 1; 0 1; 00 01 12 13; then 000 001 012 013 122 123 134
+        check.due("19: the last of three", x.search(5), 14);
+        broke(x, 3, 0, 3, 0);
     }
 
     /** One state against readings of two variables: which guess it breaks. */
