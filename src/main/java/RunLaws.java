@@ -798,17 +798,17 @@ public final class RunLaws {
 
         /** Puts the fresh row where its lead belongs, with the lead above 0; it has no common divisor by now. */
         private int insertFresh(int lead) {
-            long[] spare = rows[rank];
             int at = rank;
             for (; at > 0 && leads[at - 1] > lead; at--) {
-                rows[at] = rows[at - 1];
                 leads[at] = leads[at - 1];
+                for (int c = 0; c < places; c++) {
+                    rows[at][c] = rows[at - 1][c];
+                }
             }
             boolean turned = fresh[lead] < 0;
             for (int c = 0; c < places; c++) {
-                spare[c] = turned ? -fresh[c] : fresh[c];
+                rows[at][c] = turned ? -fresh[c] : fresh[c];
             }
-            rows[at] = spare;
             leads[at] = lead;
             rank++;
             return at;
