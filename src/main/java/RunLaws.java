@@ -314,7 +314,7 @@ public final class RunLaws {
     private void noteDead(int side, Facts facts, int held) {
         for (int g = 0; g < held; g++) {
             int code = codes[g];
-            if (!facts.stands(shapeOf(code), firstOf(code), secondOf(code))) {
+            if (deadCount < dead.length && !facts.stands(shapeOf(code), firstOf(code), secondOf(code))) {
                 dead[deadCount] = 1000 * side + code;
                 deadCount++;
             }
